@@ -756,26 +756,16 @@ public final class FogCuts {
             warm();
         }
 
+        /** Lamps do not add up: a cell loses 2 by its own, or else 1, by however many beside it. */
         private void warm() {
-            for (int cell = 0; cell < cells; cell++) {
-                put(melt, cell, 0);
-            }
             for (int row = 0; row < rows; row++) {
                 for (int column = 0; column < columns; column++) {
-                    if (at(lamp, row * columns + column) == 1) {
-                        heat(cellAt(row, column), 2);
-                        heat(cellAt(row - 1, column), 1);
-                        heat(cellAt(row, column - 1), 1);
-                        heat(cellAt(row, column + 1), 1);
-                        heat(cellAt(row + 1, column), 1);
-                    }
+                    int cell = row * columns + column;
+                    int near = at(lamp, cellAt(row - 1, column)) + at(lamp, cellAt(row + 1, column))
+                            + at(lamp, cellAt(row, column - 1)) + at(lamp, cellAt(row, column + 1));
+                    put(melt, cell, at(lamp, cell) == 1 ? 2 : Math.min(near, 1));
                 }
             }
-        }
-
-        /** Lamps do not add up: a cell loses what the nearest of them takes. */
-        private void heat(int cell, int loss) {
-            put(melt, cell, Math.max(at(melt, cell), loss));
         }
 
         void pass(int hour) {

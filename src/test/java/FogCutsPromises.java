@@ -406,6 +406,12 @@ public final class FogCutsPromises {
     dueNowThen(y, ">", -6, -6);
     y.shape(0, 0, 0);
     dueNowThen(y, ">", 1, 1);
+    y.shape(0, 0, 1);
+    dueNowThen(y, ">.", -6, -6);
+    y.shape(0, 1, 1);
+    dueNowThen(y, ">.", 1, 1);
+    y.shape(0, 1, 9);
+    dueNowThen(y, ">.", -6, -6);
     FogCuts z = of(2, 2, "9999");
     z.shape(0, 3, 1);
     z.shape(0, 1, 2);
@@ -541,6 +547,13 @@ public final class FogCutsPromises {
     due("slack 0", x.apart(-1), 6);
     x.shape(1, 4, 1);
     due("slack 0, the same number", x.apart(-1), 5);
+    FogCuts y = new FogCuts();
+    y.shape(0, 0, 0);
+    y.shape(1, 0, 9);
+    y.shape(2, 11, 0);
+    y.shape(3, 11, 9);
+    due("the first cell", y.apart(0), 1);
+    due("the last cell", y.apart(1), 23);
   }
 
   private static void dueWalk(FogCuts x, int from, int to, int spoilt, int steps, int first) {
@@ -556,6 +569,7 @@ public final class FogCutsPromises {
     dueWalk(x, 8, 0, 0, 4, 5);
     dueWalk(x, 4, 4, 0, 0, -6);
     x.shape(0, 1, 5);
+    dueWalk(x, 1, 2, 1, 1, 2);
     x.shape(2, 1, 9);
     x.shape(1, 4, 0);
     dueWalk(x, 0, 2, 0, 6, 3);
@@ -721,6 +735,8 @@ public final class FogCutsPromises {
     due("no shape, none fell", x.year(0, 4, 1), 0);
     dueFog("nothing is done", fog(x), "30");
     due("the last seed", x.year(9999, 99, 1), 0);
+    due("no fog, the most", of(1, 1, "0").year(0, 2, 2), 0);
+    due("no fog, together", of(1, 1, "0").year(0, 2, 0), 0);
     int[][] out = {{-1, 1, 0}, {10000, 1, 0}, {0, 0, 0}, {0, 100, 0}, {0, 1, 3}, {0, 1, -1}, {MOST, MOST, 0}, {LEAST, 5, 0}};
     for (int[] y : out) due("year " + y[0] + " " + y[1] + " " + y[2], x.year(y[0], y[1], y[2]), -2);
   }
