@@ -399,6 +399,7 @@ public final class FogCutsSentences {
     due("a letter alone", pad(x, "a").fault(), 1);
     due("behind an hour", pad(x, ".a").fault(), 2);
     due("behind an act", pad(x, "a0l").fault(), 3);
+    due("what was wiped does not come", pad(pad(x, "a0"), "a").fault(), 1);
     due("behind 59 signs", pad(x, times(".", 59) + "a").fault(), 60);
     due("no more can come", x.say('0'), FULL);
     due("an act at the end of 60", pad(x, times(".", 58) + "a+").fault(), NONE);
@@ -577,6 +578,7 @@ public final class FogCutsSentences {
     FogCuts x = pad(wants(of(1, 2, "05"), 0, 0, "a0"), "<");
     dueNowThen("only another cell's cut would do", x, NONE, NONE);
     dueNowThen("that cell is of the shape", wants(x, 0, 0, "b0"), 1, 2);
+    dueNowThen("only cell 0's cut would do", pad(wants(of(1, 2, "50"), 0, 0, "b0"), ">"), NONE, NONE);
     FogCuts y = wants(of(2, 2, "9999"), 0, 0, "b1c2d3");
     dueNowThen("3 cells, an empty night", y, 3, 14);
     y.shape(0, 0, 9);
@@ -590,6 +592,7 @@ public final class FogCutsSentences {
     sentence("how many; the CELLS, the least as bits; NONE. (The NIGHT has hours alone; nothing but cuts is done; a cut to some number below what it is.)");
     FogCuts x = wants(of(1, 2, "50"), 0, 0, "a5");
     dueNowThen("it stands without", x, 0, 0);
+    dueNowThen("it stands without, and by a cut, too", wants(of(1, 1, "5"), 1, 0, "a5"), 0, 0);
     dueNowThen("it can not be more", wants(x, 0, 0, "a6"), NONE, NONE);
     dueNowThen("one less", wants(x, 0, 0, "a4"), 1, 1);
     dueNowThen("down to 0", wants(x, 0, 0, "a0"), 1, 1);
@@ -604,6 +607,7 @@ public final class FogCutsSentences {
     dueNowThen("either of two", x, 1, 1);
     dueNowThen("both", pad(x, ""), 2, 3);
     dueNowThen("none does", pad(x, ">>>>>"), NONE, NONE);
+    dueNowThen("c alone ahead of a and b, 4 ahead of 3", pad(wants(of(1, 3, "122"), 1, 0, "a2b2c0"), "<"), 1, 4);
     dueNowThen("behind a full pad", pad(x, times(".", 60)), 2, 3);
   }
   private static void hoursAlone() {
@@ -649,6 +653,7 @@ public final class FogCutsSentences {
     FogCuts y = pad(lit(wants(of(1, 2, "55"), 0, 0, "a3b3"), "ab"), ">");
     dueDark("either of two", y, 1, 1);
     due("nothing is put out", y.told(5), 3);
+    dueDark("c alone ahead of a and b, 4 ahead of 3", pad(lit(wants(of(1, 3, "122"), 0, 0, "b1"), "abc"), "<"), 1, 4);
     FogCuts z = lit(wants(of(4, 6, times("9", 24)), 0, 0, "x9"), "ax");
     dueDark("the last", pad(z, "."), 1, 1 << 23);
   }
@@ -893,8 +898,21 @@ public final class FogCutsSentences {
     }
     due("8 windy hours take 8", wants(x, 0, 0, "a0").chance(0, 10, 8, 0), 1);
     due("8 windy hours take no less", wants(x, 0, 0, "a1").chance(0, 10, 8, 0), 0);
-    due("1 of 8", x.chance(0, 5, 8, 0), 1);
+    due("not behind 7", wants(x, 0, 0, "a0").chance(0, 10, 7, 0), 0);
+    due("1 of 8", wants(x, 0, 0, "a1").chance(0, 5, 8, 0), 1);
     due("1 of 8, lower", x.chance(0, 5, 8, 1), 32);
+  }
+  private static void windyToTheEast() {
+    sentence("is windy to the e with t tenths (0 to 10), each by itself, else still");
+    FogCuts x = wants(of(1, 2, "20"), 0, 0, "b1");
+    due("from the west", x.chance(0, 10, 1, 0), 1);
+    due("not to the west", wants(of(1, 2, "02"), 0, 0, "a1").chance(0, 10, 1, 0), 0);
+    due("still, for sure", x.chance(0, 0, 8, 0), 0);
+    FogCuts y = lit(wants(of(1, 1, "9"), 0, 0, "a9"), "a");
+    for (int m = 0; m <= 4; m++) {
+      y.shape(0, 0, 9 - 2 * m);
+      due("lamps take in each of " + m + " still hours", y.chance(0, 0, m, 0), 1);
+    }
   }
   private static void chanceOfNoHours() {
     sentence("that a SHAPE stands behind them");
@@ -942,6 +960,9 @@ public final class FogCutsSentences {
     FogCuts x = lit(of(2, 2, ""), "abcd");
     due("no shapes", x.year(0, 99, 1), 0);
     due("it stands all the year", wants(x, 0, 0, "b0").year(0, 99, 1), 0);
+    for (int shape = 0; shape < 4; shape++) {
+      due("one never does, " + shape, wants(lit(of(2, 2, ""), "abcd"), 0, shape, "d9").year(0, 99, 1), 99);
+    }
     due("another one never does", wants(x, 0, 3, "d9").year(0, 99, 1), 99);
     due("two never do, each hour once", wants(x, 0, 2, "d8").year(0, 99, 1), 99);
     due("one hour", x.year(0, 1, 1), 1);
@@ -1307,6 +1328,7 @@ public final class FogCutsSentences {
     cutsBehindHours();
     whatBelow();
     eachOfMHours();
+    windyToTheEast();
     chanceOfNoHours();
     yearBounds();
     hoursOfAYear();
