@@ -653,6 +653,8 @@ public final class FogCutsSentences {
     FogCuts y = pad(lit(wants(of(1, 2, "55"), 0, 0, "a3b3"), "ab"), ">");
     dueDark("either of two", y, 1, 1);
     due("nothing is put out", y.told(5), 3);
+    wants(y, 0, 1, "b9").nowThen(1, 0);
+    dueDark("either of two, where nowThen() asked for the second before", y, 1, 1);
     dueDark("c alone ahead of a and b, 4 ahead of 3", pad(lit(wants(of(1, 3, "122"), 0, 0, "b1"), "abc"), "<"), 1, 4);
     FogCuts z = lit(wants(of(4, 6, times("9", 24)), 0, 0, "x9"), "ax");
     dueDark("the last", pad(z, "."), 1, 1 << 23);
